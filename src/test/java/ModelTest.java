@@ -1,6 +1,6 @@
 /** All promises: long runs of calls, drawn by a fixed rule, answered alike by program and model. */
 public final class ModelTest {
-    private static final int RUNS = 1200;
+    private static final int RUNS = 260;
     private static final int CALLS = 512;
     private static final int[] EDGES = {-1, 8, 9, 100, 101, 501, 1001, Integer.MIN_VALUE, Integer.MAX_VALUE};
 
@@ -130,7 +130,7 @@ public final class ModelTest {
             call = "night(" + nights + ")";
             got = () -> x.night(nights);
             want = m.night(nights);
-        } else if (kind < 93 && draw(8) == 0) {
+        } else if (kind < 95 && draw(style % 4 == 0 ? 2 : 5) == 0) {
             call = "leave(" + a + ")";
             got = () -> x.leave(a);
             want = m.leave(a);
@@ -163,12 +163,12 @@ public final class ModelTest {
         }
         System.out.println("rings of 4 or 5: " + longRings + ", goods by: " + goodsBy + ", goods to: " + goodsTo
             + ", voids: " + voids + ", nights with fees: " + feeTwo + ", nothing frozen: " + zeroParts);
-        Check.due("long rings were netted", longRings > 100, true);
-        Check.due("goods were owed by one", goodsBy > 100, true);
-        Check.due("goods were owed to one", goodsTo > 100, true);
-        Check.due("voids owed back", voids > 100, true);
-        Check.due("fees were paid", feeTwo > 100, true);
-        Check.due("disputes froze nothing", zeroParts > 100, true);
+        Check.due("long rings were netted", longRings > 50, true);
+        Check.due("goods were owed by one", goodsBy > 50, true);
+        Check.due("goods were owed to one", goodsTo > 50, true);
+        Check.due("voids owed back", voids > 50, true);
+        Check.due("fees were paid", feeTwo > 50, true);
+        Check.due("disputes froze nothing", zeroParts > 50, true);
         Check.end("ModelTest");
     }
 }

@@ -107,6 +107,24 @@ public final class NightsTest {
         Check.due("balanceAnew(8)", x.balanceAnew(8), 147);
     }
 
+    /** Several idle shops pay, the first and the last one too, and what each owes stays as much. */
+    private static void feeOfAll() {
+        Mutualledger x = Check.circle(8);
+        x.trade(3, 0, 100);
+        x.trade(3, 7, 200);
+        x.trade(7, 0, 50);
+        x.night(5);
+        x.fee(100);
+        x.night(1);
+        Check.due("owes(3, 8)", x.owes(3, 8), 30);
+        Check.due("owes(3, 0)", x.owes(3, 0), 85);
+        Check.due("owes(3, 7)", x.owes(3, 7), 185);
+        Check.due("owes(7, 8)", x.owes(7, 8), 0);
+        Check.due("balance(0)", x.balance(0), 135);
+        Check.due("balance(7)", x.balance(7), 135);
+        Check.due("balance(8)", x.balance(8), 30);
+    }
+
     /** Of what is frozen nothing is paid, and it does not count for who owes the most. */
     private static void feeOfTheOpen() {
         Mutualledger x = Check.circle(3);
@@ -185,6 +203,7 @@ public final class NightsTest {
         isIdle();
         feePaid();
         feeOfTheGreatest();
+        feeOfAll();
         feeOfTheOpen();
         ringsAheadOfFees();
         asked();

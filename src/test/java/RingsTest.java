@@ -102,6 +102,19 @@ public final class RingsTest {
         }
     }
 
+    /** A debt of 1 is enough, in every place of the ring. */
+    private static void leastDebt() {
+        for (int place = 0; place < 4; place++) {
+            Mutualledger x = Check.circle(4);
+            for (int i = 0; i < 4; i++) {
+                x.trade(i, (i + 1) % 4, i == place ? 1 : 3);
+            }
+            x.night(1);
+            Check.due("rings()", x.rings(), 1);
+            Check.same("the ring", Check.ring(x, 0), "4 1 0 1 2 3 -1");
+        }
+    }
+
     /** What is frozen bars a ring, and narrows it. */
     private static void frozen() {
         Mutualledger x = Check.circle(3);
@@ -155,6 +168,7 @@ public final class RingsTest {
         lowestFirst();
         pairsAheadOfThree();
         longest();
+        leastDebt();
         frozen();
         many();
         Check.end("RingsTest");

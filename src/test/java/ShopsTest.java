@@ -143,6 +143,28 @@ public final class ShopsTest {
         Check.due("balanceAnew(8)", x.balanceAnew(8), 5);
     }
 
+    /** The lowest guarantor pays first, to the lowest one to whom it is owed. */
+    private static void lowestGuarantorFirst() {
+        Mutualledger x = Check.circle(8);
+        x.trade(3, 7, 100);
+        x.trade(3, 1, 60);
+        x.guarantee(7, 3, 30);
+        x.guarantee(0, 3, 80);
+        // to 1: 0 pays 60; to 7: 0 pays 20, 7 itself 30, what is left is goods
+        Check.due("leave(3)", x.leave(3), 50);
+        Check.due("owes(0, 1)", x.owes(0, 1), 60);
+        Check.due("owes(0, 7)", x.owes(0, 7), 20);
+        Check.due("owes(7, 1)", x.owes(7, 1), 0);
+        Check.due("balance(7)", x.balance(7), 20);
+        Check.due("balanceAnew(7)", x.balanceAnew(7), 20);
+        Mutualledger y = Check.circle(3);
+        y.trade(2, 0, 100);
+        y.guarantee(1, 2, 40);
+        Check.due("leave(2)", y.leave(2), 60);
+        Check.due("owes(1, 0)", y.owes(1, 0), 40);
+        Check.due("balance(0)", y.balance(0), 40);
+    }
+
     /** A guarantor to whom it is owed owes nothing, but its guarantee is spent. */
     private static void guarantorIsCreditor() {
         Mutualledger x = Check.circle(4);
@@ -210,6 +232,7 @@ public final class ShopsTest {
         debtsPassThroughToTheSame();
         houseIsLast();
         guarantorsPay();
+        lowestGuarantorFirst();
         guarantorIsCreditor();
         guaranteesGo();
         goodsAsked();
