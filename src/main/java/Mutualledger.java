@@ -798,7 +798,7 @@ public final class Mutualledger {
 
         private boolean isSet(int shop, int length) {
             for (int place = 0; place < length; place++) {
-                if (shopAt(place) == shop) {
+                if (rows.get(count, FIRST_SHOP + place) == shop) {
                     return true;
                 }
             }
