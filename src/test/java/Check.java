@@ -83,7 +83,8 @@ final class Check {
         return s.toString();
     }
 
-    private static String told(Call call) {
+    /** The answer, or the name of what is thrown. */
+    static String told(Call call) {
         try {
             return Long.toString(call.make());
         } catch (RuntimeException e) {
